@@ -1568,6 +1568,7 @@ public final class SaltStreet {
                 kind = ENDED;
             } else if (isLetter(text[next])) {
                 cutWord();
+                kind = next - start > MOST_LETTERS ? LONG_WORD : kindOfWord(name);
             } else if (isDigit(text[next])) {
                 cutNumber();
             } else {
@@ -1591,7 +1592,6 @@ public final class SaltStreet {
                 }
                 next++;
             }
-            kind = next - start > MOST_LETTERS ? LONG_WORD : kindOfWord(name);
         }
 
         private static int kindOfWord(long name) {
