@@ -1477,7 +1477,7 @@ public final class SaltStreet {
                     int taken = Math.min(left, ground.stock[g]);
                     left -= taken;
                     paid += taken * plan.price[g];
-                    lastPrice = taken > 0 ? plan.price[g] : lastPrice;
+                    lastPrice = plan.price[g];
                 }
             }
             return left == 0;

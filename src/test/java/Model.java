@@ -187,6 +187,32 @@ final class Model {
         return set;
     }
 
+    int gone() {
+        int set = 0;
+        for (int h = 0; h < houses.size(); h++) {
+            set |= houses.get(h).gone ? 1 << h : 0;
+        }
+        return set;
+    }
+
+    int ghosts() {
+        int set = 0;
+        for (int q = 0; q < quarrels.size(); q++) {
+            boolean both = houses.get(quarrels.get(q).side[0]).gone && houses.get(quarrels.get(q).side[1]).gone;
+            set |= both ? 1 << q : 0;
+        }
+        return set;
+    }
+
+    int steps(int what) {
+        int many = 0;
+        for (House h : houses) {
+            boolean[] looks = {h.sugar > 0, h.snow > 0, h.grains() == 0 && h.snow == 0};
+            many += !h.gone && looks[what] ? 1 : 0;
+        }
+        return many;
+    }
+
     void strew(int house, int grains) {
         houses.get(house).salt += grains;
         bought += grains;

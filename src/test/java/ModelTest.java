@@ -9,11 +9,14 @@ public final class ModelTest {
     private static Model m;
     private static SaltStreet x;
     private static int budget;
+    private static final String[] FAULTY = {
+        "house a salt 9;house b gone;rain washes 9;gone counts;grocer g stock 9 price 9 sweet 9;quarrel",
+        "house a gone;house b gone;house c salt 3 sugar 9;house d;quarrel p of a and b needs 3;quarrel q of c and d needs 3;!"};
 
     public static void main(String[] args) {
         for (int run = 0; run < 400; run++) {
             m = new Model();
-            x = new SaltStreet();
+            nextObject(run);
             String text = streetText();
             Checks.good(x, "street " + text, Checks.street(x, text), m.quarrels.size());
             askAll();
@@ -23,6 +26,16 @@ public final class ModelTest {
             }
         }
         Checks.finish();
+    }
+
+    /** Often the one that is there already: nothing of what it read before may be left. */
+    private static void nextObject(int run) {
+        if (run % 5 == 0) {
+            x = new SaltStreet();
+        } else {
+            Checks.refused(x, "a FAULT", Checks.street(x, FAULTY[run % 2]), 9);
+            Checks.refused(x, "a FAULT", Checks.days(x, "loop 2;loop 3;night;"), 9);
+        }
     }
 
     private static int draw(int n) {
@@ -374,6 +387,11 @@ public final class ModelTest {
         Checks.good(x, "truce()", x.truce(), m.truce());
         Checks.good(x, "over()", x.over(), m.over());
         Checks.good(x, "hopeless()", x.hopeless(), m.hopeless());
+        Checks.good(x, "ghosts()", x.ghosts(), m.ghosts());
+        Checks.good(x, "told(9)", x.told(9), m.gone());
+        for (int what = 0; what < 3; what++) {
+            Checks.good(x, "steps", x.steps(what), m.steps(what));
+        }
         Checks.good(x, "most()", x.most(), m.most());
         int set = draw(1 << m.quarrels.size());
         Checks.good(x, "lack", x.lack(set), m.lack(set));
