@@ -101,7 +101,7 @@ public final class SaltStreet {
     private final Life life = new Life();
     private final Life trial = new Life();
     private final Could could = new Could();
-    private final Tokens tokens = new Tokens();
+    private final Tokens tokens = new Tokens(tape);
     private final StreetReader streetReader = new StreetReader(tokens, spare);
     private final DaysReader daysReader = new DaysReader(tokens, plan, spare.program);
     private int onTape;
@@ -198,7 +198,7 @@ public final class SaltStreet {
         if (!within(n, 0, onTape)) {
             return refuse(BAD_NUMBER);
         }
-        tokens.begin(tape, n);
+        tokens.begin(n);
         boolean taken = streetReader.takeText();
         closeText();
         if (!taken) {
@@ -212,7 +212,7 @@ public final class SaltStreet {
         if (!within(n, 0, onTape) || n > MOST_DAYS_TEXT) {
             return refuse(BAD_NUMBER);
         }
-        tokens.begin(tape, n);
+        tokens.begin(n);
         boolean taken = daysReader.takeText();
         closeText();
         if (!taken) {
@@ -1539,7 +1539,7 @@ public final class SaltStreet {
 
     /** Cuts a text into TOKENS, one ahead, and keeps the FAULT at which reading ended. */
     private static final class Tokens {
-        private int[] text = new int[0];
+        private final int[] text;
         private int length;
         private int next;
         private int kind;
@@ -1550,9 +1550,12 @@ public final class SaltStreet {
         private int fault;
         private int place = NONE;
 
-        void begin(int[] newText, int newLength) {
-            text = newText;
-            length = Math.min(newLength, newText.length);
+        Tokens(int[] tape) {
+            text = tape;
+        }
+
+        void begin(int newLength) {
+            length = Math.min(newLength, text.length);
             next = 0;
             fault = 0;
             place = NONE;

@@ -92,9 +92,37 @@ public final class DaysTest {
         Checks.faultyDays(ROW, "snow 100;", 4, 5);
         Checks.faultyDays(ROW, "loop 0;", 4, 5);
         Checks.faultyDays(ROW, "loop 100;", 4, 5);
+        namesOfNow();
         SaltStreet x = Checks.made(ROW);
         Checks.good(x, "the edges", Checks.days(x, "strew a 1;strew a 999;buy g 1 to a;buy g 999 to a;rain 0;rain 16;"
                 + "snow 0;snow 99;loop 1;end;loop 99;end;when lies a=0;end;when lies a=9999;end;"), 12);
+    }
+
+    /** NAMES of a STREET that was there ahead are not of this one; 24 NAMES are looked through to the end. */
+    private static void namesOfNow() {
+        SaltStreet old = Checks.made("house zz;house yy;");
+        Checks.street(old, "house yy;");
+        Checks.refused(old, "a NAME of old", Checks.days(old, "sweep zz;"), 9);
+        Checks.due("fault(0)", old.fault(0), 3);
+        Checks.street(old, "");
+        Checks.refused(old, "a NAME of old", Checks.days(old, "sweep yy;"), 9);
+        Checks.due("fault(0)", old.fault(0), 3);
+        StringBuilder all = new StringBuilder();
+        for (char c = 'a'; c <= 'h'; c++) {
+            all.append("house ").append(c).append(';');
+        }
+        for (char c = 'i'; c <= 'p'; c++) {
+            all.append("quarrel ").append(c).append(" of a and b needs 1;");
+        }
+        for (char c = 'q'; c <= 't'; c++) {
+            all.append("cat ").append(c).append(" from a to b takes 1;");
+        }
+        for (char c = 'u'; c <= 'x'; c++) {
+            all.append("grocer ").append(c).append(" stock 1 price 1;");
+        }
+        Checks.faultyDays(all.toString(), "sweep y;", 3, 6);
+        SaltStreet full = Checks.made(all.toString());
+        Checks.good(full, "the last of each", Checks.days(full, "sweep h;buy x 1 to h;when over p;end;"), 3);
     }
 
     private static void goneFaults() {

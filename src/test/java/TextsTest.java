@@ -6,6 +6,7 @@ public final class TextsTest {
     public static void main(String[] args) {
         feed();
         streetTakesTheTape();
+        theTextIsCut();
         numbersThatCannotBe();
         notATokenFaults();
         cannotStandFaults();
@@ -66,6 +67,27 @@ public final class TextsTest {
         Checks.good(z, "SALT", z.step(0, 0), 7);
         Checks.good(z, "SUGAR", z.step(0, 1), 8);
         Checks.good(z, "NEEDS", z.quarrel(0, 2), 3);
+    }
+
+    /** What stands on the tape behind the first n bytes is nothing to the text. */
+    private static void theTextIsCut() {
+        SaltStreet x = new SaltStreet();
+        Checks.feed(x, "house a salt 012345;");
+        Checks.refused(x, "cut within a NUMBER", x.street(17), 9);
+        Checks.due("fault(0)", x.fault(0), 2);
+        Checks.due("fault(1)", x.fault(1), 17);
+        Checks.feed(x, "house abcdefghij;");
+        Checks.refused(x, "cut within a WORD", x.street(14), 9);
+        Checks.due("fault(0)", x.fault(0), 2);
+        Checks.due("fault(1)", x.fault(1), 14);
+        Checks.feed(x, "house a;   !");
+        Checks.good(x, "cut within blanks", x.street(10), 0);
+        Checks.feed(x, "night;nightly;");
+        Checks.refused(x, "cut within a WORD of DAYS", x.days(11), 9);
+        Checks.due("fault(0)", x.fault(0), 2);
+        Checks.due("fault(1)", x.fault(1), 11);
+        Checks.feed(x, "night;nightly;");
+        Checks.good(x, "cut behind a sign", x.days(6), 1);
     }
 
     private static void numbersThatCannotBe() {
@@ -262,6 +284,7 @@ public final class TextsTest {
         Checks.due("fault() has no STATUS", x.status(), 1);
         x.days(0);
         Checks.due("without one", x.fault(0), 0);
+        Checks.due("its place is forgotten", x.fault(1), NONE);
     }
 
     private static void told() {

@@ -50,6 +50,13 @@ public final class TraysTest {
         Checks.refused(x, "tray(0, 0, 61)", x.tray(0, 0, 61), 1);
         Checks.refused(x, "tray(1, 0, 61)", x.tray(1, 0, 61), 1);
         Checks.refused(x, "it is MISSING yet", x.read(1, 0), 2);
+        for (int i = 0; i < 60; i++) {
+            x.write(3, i, 7);
+        }
+        Checks.good(x, "tray(3, 3, 60) anew", x.tray(3, 3, 60));
+        for (int i = 0; i < 60; i++) {
+            Checks.good(x, "a row of 0s", x.read(3, i), 0);
+        }
         x.write(3, 5, 7);
         Checks.good(x, "tray(3, 3, 6) anew", x.tray(3, 3, 6));
         Checks.good(x, "a row of 0s", x.read(3, 5), 0);
