@@ -8,9 +8,12 @@ public final class CallEdgesTest {
 
     public static void main(String[] args) {
         tray();
+        trayAnew();
         write();
         read();
         pour();
+        pourAsTheyWere();
+        streetDays();
         toldStepQuarrelGrocer();
         shareWhoseNobodys();
         strewBuy();
@@ -41,6 +44,27 @@ public final class CallEdgesTest {
             Rich.denies(1, "tray " + wild, x -> x.tray(wild, 0, 1));
             Rich.denies(1, "sort " + wild, x -> x.tray(0, wild, 1));
             Rich.denies(1, "many " + wild, x -> x.tray(0, 0, wild));
+        }
+    }
+
+    // Promise 5: "A TRAY is a row of so many 0s", one that was there ahead, too
+    private static void trayAnew() {
+        int[] many = {0, 1, 5, 60};
+        for (int sort = 0; sort < 4; sort++) {
+            for (int n : many) {
+                SaltStreet x = new SaltStreet();
+                x.tray(0, 3 - sort, 60);
+                for (int i = 0; i < 60; i++) {
+                    x.write(0, i, 7);
+                }
+                Checks.good(x, "tray anew", x.tray(0, sort, n));
+                for (int i = 0; i < n; i++) {
+                    Checks.good(x, "place " + i + " of " + n, x.read(0, i), 0);
+                }
+                Checks.refused(x, "place " + n + " of " + n, x.read(0, n), 3);
+                x.tray(0, sort, 60);
+                Checks.good(x, "it grows by 0s", x.read(0, 59), 0);
+            }
         }
     }
 
@@ -126,6 +150,56 @@ public final class CallEdgesTest {
             x -> x.pour(0, Integer.MAX_VALUE, 0, Integer.MAX_VALUE, Integer.MAX_VALUE));
     }
 
+    // Promise 8: "come to another one's (or its own) place on, as they were"
+    private static void pourAsTheyWere() {
+        for (int place = 0; place <= 4; place++) {
+            for (int at = 0; at <= 4; at++) {
+                for (int many = 0; many <= 4 - Math.max(place, at); many++) {
+                    for (int to = 0; to < 2; to++) {
+                        SaltStreet x = new SaltStreet();
+                        x.tray(0, 3, 4);
+                        x.tray(1, 3, 4);
+                        for (int i = 0; i < 4; i++) {
+                            x.write(0, i, Long.MAX_VALUE - i);
+                            x.write(1, i, Long.MIN_VALUE + i);
+                        }
+                        Checks.good(x, "pour", x.pour(0, place, to, at, many));
+                        for (int i = 0; i < 4; i++) {
+                            long old = to == 0 ? Long.MAX_VALUE - i : Long.MIN_VALUE + i;
+                            boolean poured = i >= at && i < at + many;
+                            Checks.good(x, "place " + i + " behind pour(0, " + place + ", " + to + ", " + at + ", " + many + ")",
+                                x.read(to, i), poured ? Long.MAX_VALUE - (place + i - at) : old);
+                        }
+                    }
+                }
+            }
+        }
+    }
+
+    private static SaltStreet longTape() {
+        SaltStreet x = Rich.make();
+        for (int i = 0; i < 15; i++) {
+            Checks.feed(x, "                    ");
+        }
+        return x;
+    }
+
+    // Promises 10 "(1: n below 0, or more than the tape has, too; 9 ..)", 11 "(1: above 300, too; 9)"
+    private static void streetDays() {
+        Rich.answers(0, "street(15)", x -> x.street(15));
+        Rich.answers(0, "street(0)", x -> x.street(0));
+        Rich.answers(0, "days(0)", x -> x.days(0));
+        Rich.refuses(1, "street(21) of 20", x -> x.street(21));
+        Rich.refuses(1, "days(21) of 20", x -> x.days(21));
+        Rich.refuses(CallEdgesTest::longTape, 1, "days(301) of 320", x -> x.days(301));
+        Rich.refuses(CallEdgesTest::longTape, 1, "days(321) of 320", x -> x.days(321));
+        Rich.refuses(CallEdgesTest::longTape, 1, "street(321) of 320", x -> x.street(321));
+        for (int wild : WILD) {
+            Rich.refuses(1, "street of " + wild, x -> x.street(wild));
+            Rich.refuses(1, "days of " + wild, x -> x.days(wild));
+        }
+    }
+
     // Promises 13, 15, 16, 17
     private static void toldStepQuarrelGrocer() {
         int[] told = {5, 3, 1, 2, 1, 25, 0, 6, 0, 4, 0};
@@ -144,6 +218,9 @@ public final class CallEdgesTest {
         Rich.refuses(7, "step(2, 3)", x -> x.step(2, 3));
         Rich.asks(0, "quarrel(0, 0)", x -> x.quarrel(0, 0));
         Rich.asks(1, "quarrel(1, 4)", x -> x.quarrel(1, 4));
+        Rich.asks(1, "OVER", x -> x.quarrel(0, 3));
+        Rich.asks(0, "not OVER", x -> x.quarrel(1, 3));
+        Rich.asks(1, "OVER, the last one", x -> x.quarrel(2, 3));
         Rich.refuses(1, "quarrel(3, 0)", x -> x.quarrel(3, 0));
         Rich.refuses(1, "quarrel(0, 5)", x -> x.quarrel(0, 5));
         Rich.asks(34, "grocer(0, 0)", x -> x.grocer(0, 0));

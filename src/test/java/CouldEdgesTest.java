@@ -226,6 +226,9 @@ public final class CouldEdgesTest {
             maybe(x, "thaw(1) of " + n, x.thaw(1), nights <= 60 ? nights : NONE);
             maybe(x, "thawAll() of " + n, x.thawAll(), nights <= 60 ? nights : NONE);
         }
+        SaltStreet first = Checks.made("house a;house b salt 9;cat k from b to a takes 1;");
+        first.snow(2);
+        Checks.good(first, "the first alone has SNOW", first.thawAll(), 3);
         SaltStreet gone = Checks.made("house a gone;house b gone;");
         gone.snow(99);
         Checks.good(gone, "no STEP, no SNOW", gone.thawAll(), 0);
@@ -250,6 +253,13 @@ public final class CouldEdgesTest {
         Checks.good(counts, "GONE has what it NEEDS", counts.best(1), 1);
         counts.strew(1, 1);
         Checks.refused(counts, "it has it now", counts.best(999), 6);
+        SaltStreet first = Checks.made("house a;house b;house c salt 9;quarrel p of a and c needs 2;quarrel q of c and b needs 2;");
+        Checks.refused(first, "one is too few", first.best(1), 6);
+        Checks.good(first, "the first of all", first.best(2), 0);
+        first.snow(1);
+        first.night();
+        Checks.good(first, "c has no SNOW any more", first.step(2, 2), 0);
+        Checks.refused(first, "under SNOW of 1 they bring none", first.best(999), 6);
     }
 
     // "CLOSEST: .. whose LACK, alone, is the least, of several the first"
@@ -268,6 +278,8 @@ public final class CouldEdgesTest {
         Checks.good(x, "the least of all", x.closest(), 2);
         SaltStreet all = Checks.made("house a salt 1;house b salt 1;quarrel p of a and b needs 1;");
         Checks.refused(all, "all have PEACE", all.closest(), 6);
+        SaltStreet first = Checks.made("house a;house b;quarrel p of a and b needs 1;quarrel q of b and a needs 1;");
+        Checks.good(first, "the first of all", first.closest(), 0);
     }
 
     // "LEVEL: the fewest grains that must go .. so that no two STEPS have unlike many by more than 1"
@@ -484,6 +496,8 @@ public final class CouldEdgesTest {
         SaltStreet gone = Checks.made("house z gone;");
         Checks.refused(gone, "no STEP", gone.fullest(), 6);
         Checks.refused(gone, "no QUARREL", gone.longest(), 6);
+        SaltStreet first = Checks.made("house a salt 1;house b;house c salt 1;");
+        Checks.good(first, "the first of all", first.fullest(), 0);
         SaltStreet empty = Checks.made("house z gone;house a;house b;");
         Checks.good(empty, "all are empty", empty.fullest(), 1);
     }
@@ -498,6 +512,8 @@ public final class CouldEdgesTest {
         SaltStreet y = Checks.made(row + "gone counts;");
         Checks.good(y, "none is HOPELESS", y.hopeless(), 0);
         Checks.good(y, "ghosts()", y.ghosts(), 4);
+        SaltStreet all = Checks.made("house a gone;house b gone;quarrel p of a and b needs 1;quarrel q of b and a needs 1;");
+        Checks.good(all, "all are", all.ghosts(), 3);
         SaltStreet none = new SaltStreet();
         Checks.good(none, "no QUARRELS", none.hopeless(), 0);
         Checks.good(none, "no QUARRELS", none.ghosts(), 0);

@@ -24,6 +24,8 @@ public final class DaysEdgesTest {
         theStockHasSoMany();
         nightAtDay999();
         whatLies();
+        overAndTruce();
+        theThingsNamed();
         loopsAsOften();
         threeHundredSteps();
         stepsThatCount();
@@ -165,6 +167,10 @@ public final class DaysEdgesTest {
         Checks.faultyDays(ROW, "loop 1;end night;", 2, 11);
         SaltStreet x = Checks.made(ROW);
         Checks.good(x, "none within", Checks.days(x, "loop 1;end;when over p;end;"), 2);
+        Checks.refused(x, "three are open", Checks.days(x, "loop 1;loop 1;loop 1;"), 9);
+        Checks.refused(x, "none is open in another text", Checks.days(x, "end;"), 9);
+        Checks.refused(x, "three are open", Checks.days(x, "loop 1;loop 1;loop 1;"), 9);
+        Checks.good(x, "three more may be", Checks.days(x, "loop 1;loop 1;loop 1;end;end;end;"), 3);
     }
 
     // "6 a 31st STEP of it (at its WORD; end is none)"
@@ -383,6 +389,34 @@ public final class DaysEdgesTest {
         Checks.due("SALT and SUGAR, under SNOW", holds(sweet, "lies a = 5"), true);
     }
 
+    // "when over, truce: of a QUARREL"
+    private static void overAndTruce() {
+        SaltStreet x = Checks.made("house a salt 9;house b salt 1;quarrel p of a and b needs 5;quarrel q of a and b needs 1;");
+        Checks.due("no grain is there for q", holds(x, "truce q"), false);
+        Checks.due("a grain on both is there for p", holds(x, "truce p"), true);
+        Checks.due("PEACE is not OVER", holds(x, "over p"), false);
+        x.strew(1, 3);
+        x.night();
+        Checks.due("p is OVER", holds(x, "over p"), true);
+        Checks.due("q is OVER", holds(x, "over q"), false);
+        x.night();
+        Checks.due("q is OVER now", holds(x, "over q"), true);
+        x.snow(1);
+        Checks.due("under SNOW no TRUCE", holds(x, "truce p"), false);
+        Checks.due("but OVER", holds(x, "over p"), true);
+    }
+
+    private static void theThingsNamed() {
+        SaltStreet x = Checks.made("house a salt 1;house b salt 2;grocer g stock 9 price 1;grocer h stock 9 price 5;");
+        Checks.days(x, "buy h 2 to b;buy g 1 to a;strew b 3;sweep a;");
+        Checks.good(x, "live", x.live(0), 4);
+        Checks.good(x, "STOCK of g", x.grocer(0, 0), 8);
+        Checks.good(x, "STOCK of h", x.grocer(1, 0), 7);
+        Checks.good(x, "purse()", x.purse(), -11);
+        Checks.good(x, "SWEPT of a", x.told(7), 2);
+        Checks.good(x, "SALT of b", x.step(1, 0), 7);
+    }
+
     // "loop n (1 to 99): as often"
     private static void loopsAsOften() {
         int[] often = {1, 2, 98, 99};
@@ -414,6 +448,9 @@ public final class DaysEdgesTest {
         Checks.good(y, "the last of them", y.step(3, 0), 225);
         Checks.good(y, "the first that is not done", y.step(1, 0), 5 + 74);
         Checks.good(y, "one is left", y.lived(4), 1);
+        Checks.days(y, "night;");
+        y.live(0);
+        Checks.good(y, "none is left in the latest", y.lived(4), 0);
         SaltStreet z = lived(ROW, "stop;night;", 1);
         Checks.good(z, "stop leaves none to be done", z.lived(4), 0);
         Checks.good(z, "no NIGHT", z.told(4), 0);

@@ -21,6 +21,7 @@ public final class StreetEdgesTest {
         oneNameOneThing();
         namesToldAhead();
         asManyAsThereMayBe();
+        asManyAsThereMayBeOfAll();
         everyNumber();
         whatIsNotTold();
         goneOnes();
@@ -29,6 +30,7 @@ public final class StreetEdgesTest {
         theLeastKind();
         cutAnywhere();
         aNewStreet();
+        nothingIsLeftOfTheOne();
         theOldOneStays();
         whatFaultTells();
         Checks.finish();
@@ -286,6 +288,48 @@ public final class StreetEdgesTest {
         }
     }
 
+    /** All of it at once: eight HOUSES, eight QUARRELS, four CATS, four GROCERS, with 24 NAMES. */
+    private static void asManyAsThereMayBeOfAll() {
+        StringBuilder s = new StringBuilder();
+        for (int i = 0; i < 8; i++) {
+            s.append("house h").append((char) ('a' + i)).append(" salt ").append(i + 1).append(';');
+        }
+        for (int i = 0; i < 8; i++) {
+            s.append("quarrel q").append((char) ('a' + i)).append(" of h").append((char) ('a' + i)).append(" and h")
+                .append((char) ('a' + (i + 1) % 8)).append(" needs 1;");
+        }
+        for (int i = 0; i < 4; i++) {
+            s.append("cat c").append((char) ('a' + i)).append(" from h").append((char) ('h' - i)).append(" to ha takes 1;");
+        }
+        for (int i = 0; i < 4; i++) {
+            s.append("grocer g").append((char) ('a' + i)).append(" stock 2 price 1;");
+        }
+        SaltStreet x = Checks.made(s.toString());
+        int[] told = {8, 8, 4, 4};
+        for (int sort = 0; sort < 4; sort++) {
+            Checks.good(x, "told(" + sort + ")", x.told(sort), told[sort]);
+        }
+        Checks.good(x, "the last of each", Checks.days(x, "sweep hh;buy gd 1 to hh;when over qh;end;"), 3);
+        Checks.refused(x, "a NAME that is none", Checks.days(x, "sweep hi;"), 9);
+        Checks.due("the FAULT", x.fault(0), 3);
+        Checks.good(x, "the last beside it", x.beside(7), 7);
+        Checks.good(x, "the first beside it", x.beside(0), 2);
+        Checks.good(x, "peace()", x.peace(), 127);
+        Checks.good(x, "truce()", x.truce(), 127);
+        Checks.good(x, "most()", x.most(), 127);
+        Checks.good(x, "lack(255)", x.lack(255), 1);
+        Checks.good(x, "wants(0)", x.wants(0), 128);
+        Checks.good(x, "best(1)", x.best(1), 0);
+        Checks.good(x, "chain(7)", x.chain(7), 255);
+        Checks.good(x, "level()", x.level(), 6);
+        Checks.good(x, "rain()", x.rain(), 1 + 2 + 3 + 4 + 5 + 5 + 5 + 5);
+        x.snow(1);
+        Checks.good(x, "night()", x.night(), 1);
+        Checks.good(x, "MELTED", x.told(8), 3);
+        Checks.good(x, "SALT of the last", x.step(7, 0), 2);
+        Checks.refused(x, "thawAll()", x.thawAll(), 6);
+    }
+
     // Each NUMBER of a PART: the last that can be and the first that can't, on both sides
     private static void everyNumber() {
         everyNumber("house d salt #;", 0, 999);
@@ -460,6 +504,38 @@ public final class StreetEdgesTest {
             fresh.live(0);
             Checks.due("all is as in a new one", Checks.seen(x), Checks.seen(fresh));
         }
+    }
+
+    /** Neither of the STREET ahead, nor of one with a FAULT, nor of what was foreseen. */
+    private static void nothingIsLeftOfTheOne() {
+        String plain = "house a;house b;quarrel p of a and b needs 1;grocer g stock 9 price 1;grocer h stock 1 price 1;";
+        SaltStreet x = Checks.made("gone counts;rain washes 9;house a salt 50 sugar 9;house b salt 50;house c gone;house d;"
+                + "quarrel p of a and b needs 60;cat k from a to d takes 9;grocer g stock 99 price 9 sweet 9;"
+                + "grocer h stock 99 price 9 sweet 16;");
+        x.snow(9);
+        x.rain();
+        Checks.days(x, "rain 16;night;strew a 99;buy g 9 to b;sweep a;night;snow 9;rain 16;");
+        Checks.good(x, "what is foreseen", x.odds(1, 0, 1));
+        String[] faulty = {"", "gone counts;rain washes 8;house a gone;house b salt 7 sugar 7;quarrel p of a and b needs 1;"
+            + "grocer g stock 7 price 7 sweet 7;!"};
+        for (String text : faulty) {
+            Checks.street(x, text);
+            Checks.good(x, "a STREET", Checks.street(x, plain), 1);
+            SaltStreet fresh = Checks.made(plain);
+            Checks.good(x, "RAIN WASHES 5", x.quiet(0, 0, 1), 5);
+            Checks.due("all is as in a new one", Checks.seen(x), Checks.seen(fresh));
+            Checks.good(x, "a STREET with a GONE one", Checks.street(x, "house a;house b gone;quarrel p of a and b needs 1;"), 1);
+            Checks.good(x, "GONE doesn't count", x.hopeless(), 1);
+            Checks.refused(x, "a NAME of the one ahead", Checks.days(x, "buy g 1 to a;"), 9);
+            Checks.due("the FAULT", x.fault(0), 3);
+        }
+        SaltStreet seen = Checks.made("rain washes 1;house a salt 9;house b salt 9;quarrel p of a and b needs 3;");
+        seen.snow(5);
+        seen.rain();
+        Checks.good(seen, "foreseen", seen.forecast(0, 60, 0), 3);
+        Checks.good(seen, "foreseen to be OVER", seen.soonest(0), 1);
+        Checks.street(seen, plain);
+        Checks.due("all is as in a new one", Checks.seen(seen), Checks.seen(Checks.made(plain)));
     }
 
     // Promise 10: "9: the old one stays"; part ==== 5: "(but street(), days() with 9 the tape, and what fault() tells)"
