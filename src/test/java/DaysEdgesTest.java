@@ -127,6 +127,8 @@ public final class DaysEdgesTest {
         Checks.faultyDays(ROW, step.replace("#", "-1") + tail, 1, place);
         Checks.faultyDays(ROW, step.replaceAll("# ?", "") + tail, 2, place);
         Checks.faultyDays(ROW, step.replace("#", "a") + tail, 2, place);
+        Checks.faultyDays(ROW, step.replace("#", "aaaaaaaaa") + tail, 2, place);
+        Checks.faultyDays(ROW, step.replace("#", "1aaaaaaaaa") + tail, 2, place + 1);
         Checks.faultyDays(ROW, step.replace("#", "1 1") + tail, 2, place + 2);
     }
 

@@ -360,6 +360,8 @@ public final class StreetEdgesTest {
         Checks.faultyStreet(AB + part.replace("#", "-1"), 1, place);
         Checks.faultyStreet(AB + part.replaceAll("# ?", ""), 2, place);
         Checks.faultyStreet(AB + part.replace("#", "a"), 2, place);
+        Checks.faultyStreet(AB + part.replace("#", "aaaaaaaaa"), 2, place);
+        Checks.faultyStreet(AB + part.replace("#", "1aaaaaaaaa"), 2, place + 1);
         Checks.faultyStreet(AB + part.replace("#", "1 1"), 2, place + 2);
     }
 
